@@ -249,7 +249,18 @@ public final class FareDrops {
             return BAD_TEXT;
         }
         history.draft(meter);
-        int carried = carryOrders();
+        int carried = 0;
+        boolean refused = false;
+        orders.start();
+        for (int i = 0; i <= pad.length && !refused; i++) {
+            // The end of the text ends an order as a semicolon does.
+            char sign = i < pad.length ? pad.signAt(i) : ';';
+            if (sign == ';') {
+                refused = carryOrder() < 0;
+                carried += refused ? 0 : 1;
+            }
+            orders.take(sign);
+        }
         pad.length = 0;
         return history.settle(carried);
     }
@@ -289,23 +300,7 @@ public final class FareDrops {
         return drive.fare;
     }
 
-    /** The pad has no fault here; the end of the text ends an order as a semicolon does. */
-    private int carryOrders() {
-        int carried = 0;
-        orders.start();
-        for (int i = 0; i <= pad.length; i++) {
-            char sign = i < pad.length ? pad.signAt(i) : ';';
-            if (sign == ';') {
-                if (carryOrder() < 0) {
-                    return carried;
-                }
-                carried++;
-            }
-            orders.take(sign);
-        }
-        return carried;
-    }
-
+    /** Carries out the order that was read last. */
     private int carryOrder() {
         switch (orders.letter) {
             case 'h': return meter.beginRide();
@@ -399,7 +394,7 @@ public final class FareDrops {
         int dropsByWay;
         int dropsByTime;
         int rest;
-        /** way * time as they were when the rest was counted last. */
+        /** way * time as they were in the latest second of a drive; 0 ahead of the first, when the rest is 0. */
         int measure;
 
         void copyFrom(Ride other) {
@@ -416,8 +411,9 @@ public final class FareDrops {
             measure = other.measure;
         }
 
-        void startAt(int second) {
+        void startAt(int second, int coins) {
             beganAt = second;
+            fare = coins;
             extraCoins = 0;
             extras = 0;
             pulses = 0;
@@ -425,6 +421,8 @@ public final class FareDrops {
             haltSeconds = 0;
             dropsByWay = 0;
             dropsByTime = 0;
+            rest = 0;
+            measure = 0;
         }
     }
 
@@ -487,10 +485,7 @@ public final class FareDrops {
                 return NOT_POSSIBLE;
             }
             int tariff = tariffs.ofSecond(second);
-            ride.startAt(second);
-            ride.fare = tariffs.about(tariff, Tariffs.BEGIN);
-            ride.rest = 0;
-            ride.measure = tariffs.about(tariff, Tariffs.WAY) * tariffs.about(tariff, Tariffs.TIME);
+            ride.startAt(second, tariffs.about(tariff, Tariffs.BEGIN));
             state = RUNS;
             return tariff;
         }

@@ -35,6 +35,7 @@ public final class PromisesTest {
         farthestFinds();
         farthestWhereMorePulsesCostLess();
         cheapestFinds();
+        cheapestTriesEachHour();
         putAppends();
         putRefuses();
         wipeEmpties();
@@ -45,7 +46,9 @@ public final class PromisesTest {
         undoOfEachChange();
         undoKeepsSix();
         errorsRecordNothing();
+        undoBringsAllBack();
         saveAndRestore();
+        restoreBringsAllBack();
         System.out.println(passed + " passed, " + failed + " failed");
         if (failed > 0) {
             System.exit(1);
@@ -163,12 +166,14 @@ public final class PromisesTest {
         due("ofTariff(0, 4)", x.ofTariff(0, 4), 22);
         due("ofTariff(1, 4)", x.ofTariff(1, 4), 1);
         due("ofTariff(2, 4)", x.ofTariff(2, 4), 1);
+        due("hour(0, 0)", x.hour(0, 0), 2);
+        due("count(2)", x.count(2), 0);
         due("hour(24, 0)", x.hour(24, 0), NO_SUCH);
         due("hour(-1, 0)", x.hour(-1, 0), NO_SUCH);
         due("hour(0, 3)", x.hour(0, 3), NO_SUCH);
         due("hour(0, -1)", x.hour(0, -1), NO_SUCH);
         due("hour(most, least)", x.hour(MOST, LEAST), NO_SUCH);
-        due("count(8)", x.count(8), 3);
+        due("count(8)", x.count(8), 4);
     }
 
     private static void priceOfExtraIsChanged() {
@@ -357,10 +362,12 @@ public final class PromisesTest {
         x.halt();
         due("halts", x.rest(5), 10005);
         rides(x, 30, 0, 0, 0, 5, 0, 0, 0, 0);
+        due("halts", x.rest(2), 10007);
+        due("ride(4)", x.ride(4), 7);
         x.end();
-        due("free", x.rest(6), 10011);
-        due("ride(4)", x.ride(4), 5);
-        waitFor(x, 76388);
+        due("free", x.rest(6), 10013);
+        due("ride(4)", x.ride(4), 7);
+        waitFor(x, 76386);
         due("the last second", x.count(0), 86399);
         due("midnight", x.rest(1), 0);
     }
@@ -569,6 +576,9 @@ public final class PromisesTest {
         x.tariff(0, 0, 1, 1, 1);
         due("farthest(1, 0)", x.farthest(1, 0), NONE);
         due("farthest(1, 1)", x.farthest(1, 1), 1);
+        x.tariff(0, 0, 1, 1, 20);
+        due("none but 0", x.farthest(1, 0), 0);
+        due("none but 0 and 1", x.farthest(1, 1), 1);
     }
 
     private static void farthestWhereMorePulsesCostLess() {
@@ -621,6 +631,27 @@ public final class PromisesTest {
         due("cheapest(0, 10000, 0)", x.cheapest(0, 10000, 0), BAD_VALUE);
         due("cheapest(-1, 1, 0)", x.cheapest(-1, 1, 0), BAD_VALUE);
         due("cheapest(10000, 1, 0)", x.cheapest(10000, 1, 0), BAD_VALUE);
+    }
+
+    private static void cheapestTriesEachHour() {
+        FareDrops x = begin("promise 18, each hour");
+        x.tariff(0, 0, 2, 100, 20);
+        x.tariff(1, 40, 2, 100, 20);
+        x.tariff(2, 39, 2, 100, 20);
+        for (int hour = 0; hour < 24; hour++) {
+            x.hour(hour, 1);
+        }
+        due("all hours have tariff 1", x.cheapest(0, 1, 1), 40);
+        for (int hour = 23; hour >= 0; hour--) {
+            x.hour(hour, 2);
+            due("the lowest with tariff 2", x.cheapest(0, 1, 0), hour);
+            due("the lowest with tariff 2", x.cheapest(0, 1, 1), 39);
+        }
+        x.tariff(1, 999, 99, 1, 1);
+        x.hour(1, 1);
+        x.hour(23, 1);
+        due("hour 0 from its first second on", x.cheapest(0, 3600, 0), 0);
+        due("not a second of hour 1", x.cheapest(0, 3600, 1), 399);
     }
 
     private static void putAppends() {
@@ -821,19 +852,26 @@ public final class PromisesTest {
         x.halt();
         x.undo();
         due("halt", x.count(1), 1);
+        x.end();
+        x.rest(9);
+        x.hire();
+        due("hire", x.undo(), 3);
+        due("hire", x.count(1), 0);
+        due("hire", x.count(0), 9);
+        x.hire();
         write(x, "e");
         x.save(0);
         x.carryOut();
         x.restore(0);
         due("restore", x.count(1), 1);
-        due("of restore", x.undo(), 2);
+        due("of restore", x.undo(), 5);
         due("restore", x.count(1), 0);
-        due("the slot stays", x.restore(0), 0);
+        due("the slot stays", x.restore(0), 1);
         due("count(1)", x.count(1), 1);
         write(x, "x");
         x.undo();
         due("the pad stays", x.count(7), 1);
-        due("carryOut", x.undo(), 1);
+        due("carryOut", x.undo(), 4);
         due("carryOut", x.count(1), 1);
     }
 
@@ -883,6 +921,133 @@ public final class PromisesTest {
         due("undo()", x.undo(), 1);
         due("undo()", x.undo(), 0);
         due("count(0)", x.count(0), 0);
+    }
+
+    /** Everything that can be seen, except the pad and the history. */
+    private static String seen(FareDrops x) {
+        StringBuilder text = new StringBuilder();
+        for (int what = 0; what < 7; what++) {
+            text.append(x.count(what)).append(' ');
+        }
+        for (int what = 0; what < 9; what++) {
+            text.append(x.ride(what)).append(' ');
+        }
+        for (int ago = 0; ago < 12; ago++) {
+            for (int what = 0; what < 5; what++) {
+                text.append(x.log(ago, what)).append(' ');
+            }
+        }
+        for (int tariff = 0; tariff < 3; tariff++) {
+            for (int what = 0; what < 5; what++) {
+                text.append(x.ofTariff(tariff, what)).append(' ');
+            }
+        }
+        return text.toString();
+    }
+
+    /** A meter that has something other than at first in all that it keeps; rides end, and one goes on. */
+    private static FareDrops used(int rides) {
+        FareDrops x = new FareDrops();
+        x.tariff(0, 40, 3, 50, 10);
+        x.tariff(1, 41, 4, 51, 11);
+        x.hour(2, 1);
+        x.priceOfExtra(6);
+        for (int i = 0; i < rides; i++) {
+            x.rest(10 + i);
+            x.hire();
+            x.extra();
+            x.drive(100 + i, 3);
+            x.drive(0, 30 + i);
+            x.halt();
+            x.rest(20 + i);
+            x.end();
+        }
+        x.rest(7);
+        x.hire();
+        x.extra();
+        x.drive(77, 1);
+        x.drive(0, 13);
+        x.halt();
+        x.rest(5);
+        x.halt();
+        return x;
+    }
+
+    private static void same(String call, String got, String want) {
+        due(call + (got.equals(want) ? "" : ", seen " + got + "instead of " + want), got.equals(want) ? 1 : 0, 1);
+    }
+
+    /** Ends the ride and makes another, otherwise than used() would go on. */
+    private static void goAnotherWay(FareDrops x) {
+        x.drive(500, 40);
+        x.halt();
+        x.rest(400);
+        x.end();
+        x.tariff(0, 1, 1, 7, 9);
+        x.tariff(1, 2, 2, 8, 8);
+        x.tariff(2, 3, 3, 9, 7);
+        x.hour(2, 2);
+        x.priceOfExtra(1);
+        x.hire();
+        x.extra();
+        x.extra();
+        x.drive(9, 9);
+        x.end();
+        x.hire();
+        x.end();
+    }
+
+    private static void undoBringsAllBack() {
+        String before = seen(used(13));
+        for (int change = 0; change < 9; change++) {
+            part = "promise 23, all of it, " + change;
+            FareDrops x = used(13);
+            if (change == 0) {
+                x.tariff(0, 1, 1, 1, 1);
+            } else if (change == 1) {
+                x.hour(2, 2);
+            } else if (change == 2) {
+                x.priceOfExtra(77);
+            } else if (change == 3) {
+                x.drive(300, 20);
+            } else if (change == 4) {
+                x.halt();
+            } else if (change == 5) {
+                x.extra();
+            } else if (change == 6) {
+                x.end();
+            } else if (change == 7) {
+                write(x, "d5/50;x;s;w5;e;h;e;h;d5/500;e;h");
+                x.carryOut();
+            } else {
+                x.end();
+                x.hire();
+                x.undo();
+            }
+            same("other", seen(x).equals(before) ? "alike " : "other ", "other ");
+            x.undo();
+            same("undo", seen(x), before);
+        }
+    }
+
+    private static void restoreBringsAllBack() {
+        for (int rides = 2; rides < 16; rides += 4) {
+            part = "promises 24, 25, all of it, " + rides;
+            FareDrops x = used(rides);
+            String before = seen(x);
+            x.save(1);
+            goAnotherWay(x);
+            same("other", seen(x).equals(before) ? "alike " : "other ", "other ");
+            x.restore(1);
+            same("restore", seen(x), before);
+            FareDrops y = used(rides);
+            x.tariff(0, 40, 3, 500, 10);
+            y.tariff(0, 40, 3, 500, 10);
+            due("the rest is carried as ever", x.drive(0, 9), y.drive(0, 9));
+            x.end();
+            y.end();
+            same("it goes on as ever", seen(x), seen(y));
+        }
     }
 
     private static void saveAndRestore() {
