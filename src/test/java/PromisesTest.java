@@ -1,12 +1,5 @@
 /** Each promise of the document by itself: ordinary inputs, the edges that it names, and wrong inputs. */
-public final class PromisesTest {
-    private static final int NO_SUCH = -1, BAD_VALUE = -2, BAD_TEXT = -3, TOO_MANY = -4, NOT_POSSIBLE = -5, NONE = -6;
-    private static final int LEAST = Integer.MIN_VALUE, MOST = Integer.MAX_VALUE;
-
-    private static int passed = 0;
-    private static int failed = 0;
-    private static String part = "";
-
+public final class PromisesTest extends Checks {
     public static void main(String[] args) {
         newObject();
         tariffIsChanged();
@@ -49,69 +42,7 @@ public final class PromisesTest {
         undoBringsAllBack();
         saveAndRestore();
         restoreBringsAllBack();
-        System.out.println(passed + " passed, " + failed + " failed");
-        if (failed > 0) {
-            System.exit(1);
-        }
-    }
-
-    private static void due(String call, long got, long want) {
-        if (got == want) {
-            passed++;
-        } else {
-            failed++;
-            System.out.println(part + ": " + call + " answered " + got + ", due is " + want);
-        }
-    }
-
-    private static FareDrops begin(String name) {
-        part = name;
-        return new FareDrops();
-    }
-
-    private static long packed(String text) {
-        long characters = 0;
-        for (int i = 0; i < text.length(); i++) {
-            characters = characters << 8 | text.charAt(i);
-        }
-        return characters;
-    }
-
-    private static void write(FareDrops x, String text) {
-        for (int i = 0; i < text.length(); i += 8) {
-            x.put(packed(text.substring(i, Math.min(i + 8, text.length()))));
-        }
-    }
-
-    private static void rides(FareDrops x, int... due) {
-        for (int what = 0; what < due.length; what++) {
-            due("ride(" + what + ")", x.ride(what), due[what]);
-        }
-    }
-
-    private static void counts(FareDrops x, int... due) {
-        for (int what = 0; what < due.length; what++) {
-            due("count(" + what + ")", x.count(what), due[what]);
-        }
-    }
-
-    private static void logs(FareDrops x, int ago, int... due) {
-        for (int what = 0; what < due.length; what++) {
-            due("log(" + ago + ", " + what + ")", x.log(ago, what), due[what]);
-        }
-    }
-
-    private static void tariffs(FareDrops x, int tariff, int... due) {
-        for (int what = 0; what < due.length; what++) {
-            due("ofTariff(" + tariff + ", " + what + ")", x.ofTariff(tariff, what), due[what]);
-        }
-    }
-
-    /** Lets the free or halting meter wait for more seconds than one call takes. */
-    private static void waitFor(FareDrops x, int seconds) {
-        for (int left = seconds; left > 0; left -= 9999) {
-            x.rest(Math.min(left, 9999));
-        }
+        close();
     }
 
     private static void newObject() {
@@ -923,28 +854,6 @@ public final class PromisesTest {
         due("count(0)", x.count(0), 0);
     }
 
-    /** Everything that can be seen, except the pad and the history. */
-    private static String seen(FareDrops x) {
-        StringBuilder text = new StringBuilder();
-        for (int what = 0; what < 7; what++) {
-            text.append(x.count(what)).append(' ');
-        }
-        for (int what = 0; what < 9; what++) {
-            text.append(x.ride(what)).append(' ');
-        }
-        for (int ago = 0; ago < 12; ago++) {
-            for (int what = 0; what < 5; what++) {
-                text.append(x.log(ago, what)).append(' ');
-            }
-        }
-        for (int tariff = 0; tariff < 3; tariff++) {
-            for (int what = 0; what < 5; what++) {
-                text.append(x.ofTariff(tariff, what)).append(' ');
-            }
-        }
-        return text.toString();
-    }
-
     /** A meter that has something other than at first in all that it keeps; rides end, and one goes on. */
     private static FareDrops used(int rides) {
         FareDrops x = new FareDrops();
@@ -973,10 +882,6 @@ public final class PromisesTest {
         return x;
     }
 
-    private static void same(String call, String got, String want) {
-        due(call + (got.equals(want) ? "" : ", seen " + got + "instead of " + want), got.equals(want) ? 1 : 0, 1);
-    }
-
     /** Ends the ride and makes another, otherwise than used() would go on. */
     private static void goAnotherWay(FareDrops x) {
         x.drive(500, 40);
@@ -1000,7 +905,7 @@ public final class PromisesTest {
     private static void undoBringsAllBack() {
         String before = seen(used(13));
         for (int change = 0; change < 9; change++) {
-            part = "promise 23, all of it, " + change;
+            part("promise 23, all of it, " + change);
             FareDrops x = used(13);
             if (change == 0) {
                 x.tariff(0, 1, 1, 1, 1);
@@ -1032,7 +937,7 @@ public final class PromisesTest {
 
     private static void restoreBringsAllBack() {
         for (int rides = 2; rides < 16; rides += 4) {
-            part = "promises 24, 25, all of it, " + rides;
+            part("promises 24, 25, all of it, " + rides);
             FareDrops x = used(rides);
             String before = seen(x);
             x.save(1);
