@@ -1,3 +1,5 @@
+import java.util.function.Supplier;
+
 /** What the tests share: a count of the checks, and short words for what they write and look at. */
 abstract class Checks {
     static final int NO_SUCH = -1, BAD_VALUE = -2, BAD_TEXT = -3, TOO_MANY = -4, NOT_POSSIBLE = -5, NONE = -6;
@@ -76,6 +78,34 @@ abstract class Checks {
     static void waitFor(FareDrops x, int seconds) {
         for (int left = seconds; left > 0; left -= 9999) {
             x.rest(Math.min(left, 9999));
+        }
+    }
+
+    /** A new meter that waited to this second of the day. */
+    static FareDrops at(int second) {
+        FareDrops x = new FareDrops();
+        waitFor(x, second);
+        return x;
+    }
+
+    /** A call on a meter, for what is tried on more than one. */
+    interface Call {
+        long on(FareDrops x);
+    }
+
+    /** A call on a meter with a value of its own. */
+    interface CallWith {
+        long on(FareDrops x, int value);
+    }
+
+    /** Tries the last values that are allowed and the first that are not, on each side, each on a meter of its own. */
+    static void range(String call, int least, int most, int refusal, Supplier<FareDrops> meter, CallWith tried) {
+        for (int value : new int[] {LEAST, -65536, -256, least - 2, least - 1, most + 1, most + 2, 65536, MOST}) {
+            due(call + " with " + value, tried.on(meter.get(), value), refusal);
+        }
+        for (int value : new int[] {least, Math.min(least + 1, most), Math.max(most - 1, least), most}) {
+            long answer = tried.on(meter.get(), value);
+            due(call + " with " + value + " answered " + answer + "; refused", answer < 0 ? 1 : 0, 0);
         }
     }
 
