@@ -53,10 +53,13 @@ public final class BoundariesOfPromisesTest extends Checks {
         farthestCoins();
         farthestFromZeroTo999();
         farthestNone();
+        farthestWhereMoreCostLess();
+        farthestNoneWhereMoreCostLess();
         cheapestErrors();
         cheapestWhat();
         cheapestLowest();
         cheapestAtTheBeginning();
+        cheapestOf24();
         close();
     }
 
@@ -808,6 +811,36 @@ public final class BoundariesOfPromisesTest extends Checks {
         due("the dearest, one less", x.farthest(999, 999 + 999 * 99 - 1), NONE);
     }
 
+    /** Nine or ten seconds, the last in a tariff with dear drops: more pulses leave less rest to be carried to it. */
+    private static FareDrops whereMoreCostLess(int second) {
+        FareDrops x = at(second);
+        x.tariff(0, 0, 1, 100, 10);
+        x.tariff(1, 0, 99, 100, 10);
+        x.hour(1, 1);
+        return x;
+    }
+
+    private static void farthestWhereMoreCostLess() {
+        FareDrops x = whereMoreCostLess(3592);
+        part("17: the greatest number, also where less pulses cost more than told");
+        due("price(0, 9)", x.price(0, 9), 0);
+        due("price(107, 9)", x.price(107, 9), 99);
+        due("price(799, 9)", x.price(799, 9), 7);
+        due("price(800, 9)", x.price(800, 9), 106);
+        due("farthest(9, 50)", x.farthest(9, 50), 799);
+        due("farthest(9, 7)", x.farthest(9, 7), 799);
+    }
+
+    private static void farthestNoneWhereMoreCostLess() {
+        FareDrops x = whereMoreCostLess(3591);
+        part("17: NONE if it costs more with 0, also where more pulses cost less");
+        due("price(0, 10)", x.price(0, 10), 99);
+        due("price(115, 10)", x.price(115, 10), 1);
+        due("farthest(10, 98)", x.farthest(10, 98), NONE);
+        due("farthest(10, 1)", x.farthest(10, 1), NONE);
+        due("farthest(10, 99) finds one", x.farthest(10, 99) >= 115 ? 1 : 0, 1);
+    }
+
     // ---- promise 18
 
     private static void cheapestErrors() {
@@ -851,17 +884,29 @@ public final class BoundariesOfPromisesTest extends Checks {
     }
 
     private static void cheapestAtTheBeginning() {
-        FareDrops x = at(3599);
         part("18: the hour at whose beginning such a ride costs the least");
-        x.tariff(0, 0, 1, 100, 20);
-        x.tariff(1, 0, 99, 1, 1);
-        for (int hour = 0; hour < 24; hour++) {
-            x.hour(hour, hour == 9 ? 0 : 1);
+        for (int cheap = 0; cheap < 24; cheap++) {
+            FareDrops x = at(3599);
+            x.tariff(0, 0, 1, 100, 20);
+            x.tariff(1, 0, 99, 1, 1);
+            for (int hour = 0; hour < 24; hour++) {
+                x.hour(hour, hour == cheap ? 0 : 1);
+            }
+            due("not from now on", x.cheapest(0, 3600, 0), cheap);
+            due("all of its seconds", x.cheapest(0, 3600, 1), 180);
+            due("one second of the next", x.cheapest(0, 3601, 1), 279);
+            x.hire();
+            due("whatever the meter does", x.cheapest(0, 3600, 0), cheap);
         }
-        due("not from now on", x.cheapest(0, 3600, 0), 9);
-        due("all of its seconds", x.cheapest(0, 3600, 1), 180);
-        due("one second of the next", x.cheapest(0, 3601, 1), 279);
-        x.hire();
-        due("whatever the meter does", x.cheapest(0, 3600, 0), 9);
+    }
+
+    private static void cheapestOf24() {
+        FareDrops x = begin("18: there is no hour but 0 to 23");
+        x.tariff(0, 0, 2, 100, 20);
+        for (int hour = 0; hour < 24; hour++) {
+            x.hour(hour, 1);
+        }
+        due("all by tariff 1", x.cheapest(0, 1, 0), 0);
+        due("all by tariff 1", x.cheapest(0, 1, 1), 30);
     }
 }

@@ -23,7 +23,8 @@ public final class BoundariesOfTextsAndUndoTest extends Checks {
         undoLeavesPadAndSlots();
         undoThenOtherChanges();
         undoOfOrders();
-        undoOfRestOfTheState();
+        undoBringsTheRideBack();
+        undoOfLog();
         saveSlots();
         saveOverwrites();
         saveIsNoChange();
@@ -318,12 +319,12 @@ public final class BoundariesOfTextsAndUndoTest extends Checks {
         }
     }
 
-    /** A running meter with four changes: each change can be made and told from what was before it. */
+    /** A running meter behind four changes, with a drop of each kind, hired at the second 5; slot 0 has it. */
     private static FareDrops started() {
         FareDrops x = new FareDrops();
         x.rest(5);
         x.hire();
-        x.drive(250, 9);
+        x.drive(183, 41);
         x.extra();
         x.save(0);
         return x;
@@ -495,7 +496,22 @@ public final class BoundariesOfTextsAndUndoTest extends Checks {
         due("count(0)", x.count(0), 0);
     }
 
-    private static void undoOfRestOfTheState() {
+    private static void undoBringsTheRideBack() {
+        FareDrops x = started();
+        part("23: everything is as it was before it, also of a ride that ended meanwhile");
+        String before = seen(x);
+        write(x, "d9999/9;x;d0/99;s;w5;e;w9;h;x;x;d777/7;d0/60;s;w8;e;h");
+        due("carryOut()", x.carryOut(), 16);
+        x.undo();
+        same("undone", seen(x), before);
+        due("end()", x.end(), 39);
+        logs(x, 0, 39, 183, 41, 2, 5);
+        x.restore(0);
+        x.end();
+        logs(x, 0, 39, 183, 41, 2, 5);
+    }
+
+    private static void undoOfLog() {
         part("23: the log, also beyond its 12 rides, and the ride that ended last");
         FareDrops x = new FareDrops();
         for (int i = 1; i <= 12; i++) {
@@ -579,6 +595,7 @@ public final class BoundariesOfTextsAndUndoTest extends Checks {
         x.carryOut();
         x.rest(1);
         x.hire();
+        x.drive(9999, 9);
         x.put('s');
         x.restore(1);
         same("all else", seen(x), before);
